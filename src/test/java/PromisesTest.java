@@ -225,6 +225,7 @@ public final class PromisesTest {
         due(6, "again(0): what was kept is gone", x.again(0), LATE);
         due(6, "again(1)", x.again(1), LATE);
         due(8, "person(3, 0)", x.person(3, 0), UNKNOWN);
+        due(6, "the rule stays", x.ruled(0), 20);
     }
 
     private static void tells() {
@@ -420,6 +421,7 @@ public final class PromisesTest {
         // 12 in ROUND 0; 10 - r and 2: no more than 6 from ROUND 6 on.
         due(19, "fall()", x.fall(), 6);
         due(19, "fall() of ZZ", new PotAndFine().fall(), NONE);
+        due(19, "fall(), nothing put in ROUND 1", of("", "M9Z").fall(), 1);
         due(19, "fall() of P01P01", of("", "P01P01").fall(), NONE);
         PotAndFine late = of("", "P05P06");
         late.tell(1, 39, 0);
@@ -445,6 +447,9 @@ public final class PromisesTest {
         due(22, "least(1, 17): 10 and 60 and 17", least.least(1, 17), 0);
         due(22, "least(1, 18)", least.least(1, 18), 1);
         due(22, "least(1, 19)", least.least(1, 19), 2);
+        least.tell(4, 1, 14);
+        due(22, "least(1, 18), just so many", least.least(1, 18), 1);
+        least.tell(4, 1, NONE);
         due(22, "least(1, 20)", least.least(1, 20), NONE);
         due(22, "the fine stays", least.ruled(2), 0);
         due(22, "least(0, 0)", least.least(0, 0), 0);
@@ -513,6 +518,10 @@ public final class PromisesTest {
         due(27, "what is told stays", x.count(1), 1);
         due(27, "who is out stays", x.count(2), 1);
         due(27, "part() of six", of("", "M0ZP20ZP20Z").part(), 21);
+        // One S beside two P20: it keeps 10 and pays 4 in ROUND 0, 9 lost by each; then all put 20 and get nothing.
+        PotAndFine less = of("F9C9M00", "P20P20P20P20S09S09");
+        due(27, "part() where all hold less than 0", less.part(), 19);
+        due(28, "parted() where all hold less than 0", less.parted(), SUM + 2 * 600 * (10 - 36 - 36));
     }
 
     private static void replies() {
@@ -706,5 +715,13 @@ public final class PromisesTest {
         x.rule();
         due(39, "again(0) behind another rule", x.again(0), 2);
         due(39, "put(0, 0), E at most", x.put(0, 0), 5);
+        due(39, "again(1)", x.again(1), 3);
+        due(39, "put(0, 0), not told there", x.put(0, 0), 3);
+        text(x, "P19P18");
+        x.group();
+        due(6, "put(0, 0) of another group", x.put(0, 0), 5);
+        text(x, "E18");
+        x.rule();
+        due(5, "put(0, 0) by another rule", x.put(0, 0), 18);
     }
 }
