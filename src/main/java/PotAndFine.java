@@ -311,15 +311,16 @@ public final class PotAndFine {
     }
 
     public int part() {
-        int best = LATE;
-        long most = 0;
-        for (int bits = 1; canBeHalved() && bits < 1 << setup.size; bits += 2) {
-            if (isHalf(bits)) {
-                long held = heldByHalves(bits);
-                if (best == LATE || held > most) {
-                    best = bits;
-                    most = held;
-                }
+        if (!canBeHalved()) {
+            return LATE;
+        }
+        int best = firstHalf();
+        long most = heldByHalves(best);
+        for (int bits = best + 2; bits < 1 << setup.size; bits += 2) {
+            long held = isHalf(bits) ? heldByHalves(bits) : most;
+            if (held > most) {
+                best = bits;
+                most = held;
             }
         }
         return best;
@@ -329,8 +330,8 @@ public final class PotAndFine {
         if (!canBeHalved()) {
             return LATE;
         }
-        long most = Long.MIN_VALUE;
-        for (int bits = 1; bits < 1 << setup.size; bits += 2) {
+        long most = heldByHalves(firstHalf());
+        for (int bits = firstHalf() + 2; bits < 1 << setup.size; bits += 2) {
             if (isHalf(bits)) {
                 most = Math.max(most, heldByHalves(bits));
             }
@@ -548,6 +549,11 @@ public final class PotAndFine {
 
     private boolean isHalf(int bits) {
         return 2 * Integer.bitCount(bits) == setup.size;
+    }
+
+    // The half of the lowest numbers; all others that have person 0 are greater and odd.
+    private int firstHalf() {
+        return (1 << setup.size / 2) - 1;
     }
 
     private long heldByHalves(int bits) {
