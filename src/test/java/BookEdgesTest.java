@@ -409,6 +409,15 @@ public final class BookEdgesTest {
         due("sorts(3, 5)", x.sorts(3, 5), 3);
         due("sorts(3, 6)", x.sorts(3, 6), 5);
         due("sorts(3, 7): PUTS 6, and MATCHES and STAYS from 2 on", x.sorts(3, 7), 22);
+        PotAndFine zeros = new PotAndFine();
+        noteRow(zeros, 0, 0, 0, 0, 0, 0, 0, 0, 0);
+        due("sorts(0, 0): never, PUTS 0, all that match nobody or stay", zeros.sorts(0, 0), 22);
+        due("sorts(0, 7)", zeros.sorts(0, 7), 22);
+        due("sorts(0, 8)", zeros.sorts(0, 8), 42);
+        noteRow(zeros, 1, 20, 20, 20, 20, 20, 20, 20, 20);
+        due("sorts(0, 0): never, PUTS 0, all that stay", zeros.sorts(0, 0), 12);
+        due("sorts(1, 0): PUTS 20, STAYS 0", zeros.sorts(1, 0), 2);
+        due("sorts(1, 7): all that match or stay, too", zeros.sorts(1, 7), 21);
     }
 
     private static void sortsIsRefused() {

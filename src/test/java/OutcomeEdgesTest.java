@@ -46,6 +46,7 @@ public final class OutcomeEdgesTest {
         gainsOfAllPuts();
         gainIsRefused();
         restOfThoseThatAreIn();
+        restByEachOnesOwnReply();
         restOfLikeOnes();
         restIsRefused();
         Check.end();
@@ -328,6 +329,13 @@ public final class OutcomeEdgesTest {
                 due("all(39, false)", x.all(39, false), SUM + all);
             }
         }
+        Check.says(23, "the one: of PEOPLE alone, be ALL less by each of them");
+        for (int size = 2; size <= 6; size++) {
+            PotAndFine x = Check.of("M00", "P10P10P10P10P10P10".substring(0, 3 * size));
+            due("leader() of " + size, x.leader(), 0);
+            due("led() of " + size, x.led(), SUM + 600L * (400 * size - 10));
+            due("all(39, false) of " + size, x.all(39, false), SUM + 600L * 400 * size);
+        }
     }
 
     private static void leaderInsteadOfWhatIsTold() {
@@ -598,6 +606,10 @@ public final class OutcomeEdgesTest {
         x.send(2, 0);
         due("part(), OUT", x.part(), 5);
         due("parted(), OUT", x.parted(), want);
+        due("leader(): 1 and 3 put 20 already", x.leader(), 0);
+        due("part() behind leader()", x.part(), 5);
+        due("all(0, true)", x.all(0, true), SUM + 40 * 960);
+        due("parted() behind all()", x.parted(), want);
         due("count(1): what is told stays", x.count(1), 160);
         due("count(2): who is OUT stays", x.count(2), 2);
         due("put(1, 39)", x.put(1, 39), 20);
@@ -662,6 +674,16 @@ public final class OutcomeEdgesTest {
         due("gain(0, 0, 18): 1 short", x.gain(0, 0, 18), SUM + 600 * (2 - 9));
         due("gain(0, 0, 19): not short", x.gain(0, 0, 19), SUM + 600);
         due("reply(0, 0) by F 9", x.reply(0, 0), 19);
+        // 0 and 2: the mean is 1; 1 and 2: the mean is 1. 20 less 2 is less than 19.
+        x.fine(2);
+        x.tell(1, 0, 2);
+        due("gain(0, 0, 0): 1 short", x.gain(0, 0, 0), SUM + 600 * (20 - 2));
+        due("gain(0, 0, 1): not short", x.gain(0, 0, 1), SUM + 600 * 19);
+        due("reply(0, 0), a coin better than none", x.reply(0, 0), 1);
+        x.fine(1);
+        due("reply(0, 0), a coin as good as none", x.reply(0, 0), 0);
+        x.fine(9);
+        x.tell(1, 0, 20);
         // G pays less the less it puts itself: 20 and 0.
         due("gain(1, 0, 20): it pays 9", x.gain(1, 0, 20), SUM - 600 * 9);
         due("gain(1, 0, 2): it pays 1", x.gain(1, 0, 2), SUM + 600 * (18 - 1));
@@ -684,6 +706,19 @@ public final class OutcomeEdgesTest {
         due("gain(0, 1, 20): 9 at most", x.gain(0, 1, 20), SUM + 600 * (0 - 18));
         due("gain(1, 1, 10): 6 are paid to fine it", x.gain(1, 1, 10), SUM + 600 * (10 - 6));
         due("gain(0, 0, 12): none before", x.gain(0, 0, 12), SUM + 600 * 8);
+        Check.tellRound(x, 5, 0, 8);
+        Check.tellRound(x, 6, 10, 10);
+        due("gain(1, 6, 10): 4 are paid to fine it", x.gain(1, 6, 10), SUM + 600 * (10 - 4));
+        due("gain(1, 6, 4): 3 less, and 4", x.gain(1, 6, 4), SUM + 600 * (16 - 7));
+        due("gain(0, 6, 10): 4 paid back", x.gain(0, 6, 10), SUM + 600 * (10 - 8));
+        Check.says(29, "most in that ROUND, all others putting as they did in it");
+        PotAndFine other = Check.of("M10", "ZP05");
+        other.tell(1, 7, 20);
+        due("reply(0, 7)", other.reply(0, 7), 0);
+        due("reply(0, 0)", other.reply(0, 0), 0);
+        other.tell(1, 7, 0);
+        Check.rule(other, "M30");
+        due("reply(0, 7)", other.reply(0, 7), 20);
     }
 
     private static void replyIsRefused() {
@@ -763,6 +798,51 @@ public final class OutcomeEdgesTest {
         due("rest(0): all put all", full.rest(0), 1);
         full.tell(1, 39, 19);
         due("rest(39): 1 less", full.rest(39), 0);
+        for (int size = 2; size <= 6; size++) {
+            PotAndFine none = Check.of("F9", "ZZZZZZ".substring(0, size));
+            due("rest(0) of " + size, none.rest(0), 1);
+            none.tell(size - 1, 0, 1);
+            due("rest(0) of " + size + ", the last one put 1", none.rest(0), 0);
+            due("rest(39) of " + size, none.rest(39), 1);
+        }
+    }
+
+    private static void restByEachOnesOwnReply() {
+        Check.says(31, "each that is IN: its own PUT, its own best, in that ROUND");
+        // S pays 1 if it puts less, so 1 is its best; the other one would get more by 0.
+        PotAndFine x = Check.of("E03M10F2", "S09Z");
+        Check.tellRound(x, 0, 1, 1);
+        due("reply(0, 0)", x.reply(0, 0), 1);
+        due("reply(1, 0)", x.reply(1, 0), 0);
+        due("rest(0): the other one is not at its best", x.rest(0), 0);
+        // S 0 in ROUND 0: who puts is fined. S 20 in ROUND 5: who puts gets 1.5 back, and is not above the mean.
+        PotAndFine y = Check.of("M30F9", "ZS09");
+        Check.tellRound(y, 0, 0, 0);
+        Check.tellRound(y, 5, 0, 20);
+        due("reply(0, 0)", y.reply(0, 0), 0);
+        due("reply(0, 5)", y.reply(0, 5), 20);
+        due("reply(1, 5)", y.reply(1, 5), 20);
+        due("rest(5)", y.rest(5), 0);
+        y.tell(0, 5, 20);
+        due("rest(5), both at their best", y.rest(5), 1);
+        PotAndFine later = Check.of("M21", "P20P20");
+        Check.tellRound(later, 0, 0, 0);
+        Check.tellRound(later, 1, 0, 0);
+        due("rest(0)", later.rest(0), 0);
+        due("rest(7)", later.rest(7), 1);
+        Check.says(31, "each that is IN: one more or less of them");
+        PotAndFine first = Check.of("", "ZP01P01");
+        first.send(0, 5);
+        due("rest(5): 0 is OUT, 1 and 2 put", first.rest(5), 0);
+        PotAndFine last = Check.of("", "ZZZP01");
+        last.send(3, 3);
+        due("rest(2): 3 is IN and put", last.rest(2), 0);
+        due("rest(3): 3 is OUT", last.rest(3), 1);
+        PotAndFine missed = Check.of("M60", "P20P20Z");
+        due("rest(4): who put nothing would get more by 20", missed.rest(4), 0);
+        missed.send(2, 5);
+        due("rest(4)", missed.rest(4), 0);
+        due("rest(5): it is OUT", missed.rest(5), 1);
     }
 
     private static void restOfLikeOnes() {

@@ -48,6 +48,9 @@ public final class RefusalsTest {
         changeNothing("a new object", PotAndFine::new, refusedByNew());
         changeNothing("six, asked", RefusalsTest::six, asking());
         changeNothing("two, asked", RefusalsTest::two, asking());
+        askedInAnyOrder("six", RefusalsTest::six);
+        askedInAnyOrder("two", RefusalsTest::two);
+        askedInAnyOrder("a new object", PotAndFine::new);
         Check.end();
     }
 
@@ -234,6 +237,19 @@ public final class RefusalsTest {
                 Check.says(0, "What is refused changes nothing");
                 Check.due(name + ": " + named.name + " changed what probe " + probe + " saw",
                     seen.equals(before.get(probe)) ? 0 : 1, 0);
+            }
+        }
+    }
+
+    /** Each question answers behind each other one as it does when it is the first. */
+    private static void askedInAnyOrder(String name, State state) {
+        Check.says(0, "the same calls give the same answers");
+        for (Named first : asking()) {
+            for (Named second : asking()) {
+                long alone = second.call.on(state.make());
+                PotAndFine x = state.make();
+                first.call.on(x);
+                Check.due(name + ": " + second.name + " behind " + first.name, second.call.on(x), alone);
             }
         }
     }
@@ -440,6 +456,9 @@ public final class RefusalsTest {
         add(calls, "slips(300, 1)", ANY, x -> x.slips(300, 1));
         add(calls, "sort(1)", ANY, x -> x.sort(1));
         add(calls, "sorts(1, 3)", ANY, x -> x.sorts(1, 3));
+        add(calls, "holds(1, 39)", ANY, x -> x.holds(1, 39));
+        add(calls, "lost(1, 39)", ANY, x -> x.lost(1, 39));
+        add(calls, "pot(39)", ANY, x -> x.pot(39));
         add(calls, "send(1, 40): it stays", 40, x -> x.send(1, 40));
         return calls;
     }

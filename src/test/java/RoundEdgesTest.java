@@ -638,6 +638,12 @@ public final class RoundEdgesTest {
         due("paid(0, 2, 5): 12 of a mean of 4", out.paid(0, 2, 5), 8);
         out.send(0, 5);
         due("paid(0, 2, 5), S is OUT", out.paid(0, 2, 5), 0);
+        PotAndFine first = Check.of("F1", "P20S09P12Z");
+        first.tell(1, 5, 0);
+        due("paid(1, 0, 5): 20 of a mean of 8", first.paid(1, 0, 5), 9);
+        first.send(0, 5);
+        due("paid(1, 0, 5), OUT", first.paid(1, 0, 5), 0);
+        due("paid(1, 2, 5): 12 of a mean of 4", first.paid(1, 2, 5), 8);
     }
 
     private static void spiteNineAtMost() {
@@ -911,8 +917,8 @@ public final class RoundEdgesTest {
         PotAndFine x = Check.of("F3C2", "L3G09S09V09P20Z");
         long led = x.led();
         int part = x.part();
-        // Some 14 calls were made by now.
-        for (int call = 0; call < 120; call++) {
+        // These were calls 1 to 9; what stands behind the loop is 510 to 512.
+        for (int call = 0; call < 125; call++) {
             x.tell(call % 6, call % 40, call % 21);
             x.leader();
             x.whom();

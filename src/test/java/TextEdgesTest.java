@@ -69,6 +69,7 @@ public final class TextEdgesTest {
         due("person(1, 0)", x.person(1, 0), 1);
         due("person(2, 0)", x.person(2, 0), UNKNOWN);
         for (int round = 0; round < 40; round++) {
+            due("holds(1, " + round + ")", x.holds(1, round), Check.SUM + 12000 * (round + 1));
             due("put(0, " + round + ")", x.put(0, round), 0);
             due("put(1, " + round + ")", x.put(1, round), 0);
         }
@@ -244,6 +245,23 @@ public final class TextEdgesTest {
         due("pot(0)", z.pot(0), 15);
         z.write(1, 'E');
         due("fault(false): nothing of the old text is there", z.fault(false), 1);
+        // What was wiped would make the end that is missing.
+        endIsGone(false, "F3", "F");
+        endIsGone(false, "E05", "E0");
+        endIsGone(false, "E05", "E");
+        endIsGone(false, "E05M16", "C1M1");
+        endIsGone(true, "ZZ", "Z");
+        endIsGone(true, "ZM3", "ZM");
+        endIsGone(true, "ZG37", "ZG3");
+        endIsGone(true, "P20P20P20P20P20P20", "P20P20P20P20P20P2");
+    }
+
+    private static void endIsGone(boolean group, String old, String text) {
+        PotAndFine x = new PotAndFine();
+        Check.append(x, old);
+        due("fault of " + old, x.fault(group), NONE);
+        Check.text(x, text);
+        due("fault of " + text + " behind " + old, x.fault(group), text.length());
     }
 
     // -- promise 4: a rule
@@ -557,6 +575,8 @@ public final class TextEdgesTest {
             }
         }
         due("group() again", x.group(), 6);
+        due("put(5, 39)", x.put(5, 39), 10);
+        due("holds(0, 0) of one of six that put 10", x.holds(0, 0), Check.SUM + 6000 + 9600);
         Check.text(x, "ZP01");
         due("group() of fewer", x.group(), 2);
         due("person(0, 0)", x.person(0, 0), 1);
@@ -566,6 +586,8 @@ public final class TextEdgesTest {
         due("person(2, 0)", x.person(2, 0), UNKNOWN);
         due("pot(39)", x.pot(39), 1);
         due("here(39)", x.here(39), 2);
+        due("holds(0, 39)", x.holds(0, 39), Check.SUM + 40 * (12000 + 480));
+        due("all(39, false)", x.all(39, false), Check.SUM + 40 * (24000 + 360));
     }
 
     private static void groupIsRefused() {
@@ -606,6 +628,8 @@ public final class TextEdgesTest {
         x.keep(1);
         due("count(1)", x.count(1), 12);
         due("count(2)", x.count(2), 4);
+        due("put(4, 0)", x.put(4, 0), 20);
+        due("put(0, 0)", x.put(0, 0), NONE);
         due("group() of the same", groupAgain(x), 6);
         due("count(1)", x.count(1), 0);
         due("count(2)", x.count(2), 0);
