@@ -3,6 +3,7 @@ final class Check {
     static final int UNKNOWN = -1, BAD = -2, LATE = -3, FULL = -4, NONE = -9;
     static final int LOWEST = Integer.MIN_VALUE, HIGHEST = Integer.MAX_VALUE;
     static final long SUM = 1000000000L;
+    static final int[] NO_ROUND = {-1, 40, 41, -9, LOWEST, HIGHEST};
     private static int promise = 0;
     private static String sentence = "";
     private static int wrong = 0;
@@ -66,5 +67,13 @@ final class Check {
         for (int person = 0; person < coins.length; person++) {
             x.tell(person, round, coins[person]);
         }
+    }
+
+    static int[] noPerson(int size) {
+        return new int[] {-1, size, size + 1, 7, -9, LOWEST, HIGHEST};
+    }
+
+    static String two(int n) {
+        return (n < 10 ? "0" : "") + n;
     }
 }

@@ -36,7 +36,6 @@ public final class FaceTest {
         methods();
         members();
         source();
-        nothingIsMadeByCalls();
         System.out.println(wrong == 0 ? "the face and the rules are kept" : wrong + " faults");
         if (wrong != 0) {
             System.exit(1);
@@ -101,17 +100,6 @@ public final class FaceTest {
         Matcher imported = Pattern.compile("import ([^;]*);").matcher(code);
         while (imported.find()) {
             hold("import of " + imported.group(1), imported.group(1).equals("java.util.Arrays"));
-        }
-    }
-
-    /** All that is made is made with the object, so long runs do not fill the room. */
-    private static void nothingIsMadeByCalls() throws Exception {
-        String text = Files.readString(Path.of("src/main/java/PotAndFine.java"), StandardCharsets.UTF_8);
-        for (String line : text.split("\n")) {
-            if (line.contains("new ") && !line.trim().startsWith("//") && !line.trim().startsWith("/*")) {
-                hold("made with the object: " + line.trim(), line.contains("final ")
-                    || line.trim().startsWith("new Grammar(") || line.contains("slots[slot] = new Kept()"));
-            }
         }
     }
 }

@@ -2,7 +2,6 @@
 public final class OutcomeEdgesTest {
     private static final int UNKNOWN = Check.UNKNOWN, BAD = Check.BAD, LATE = Check.LATE, NONE = Check.NONE;
     private static final long SUM = Check.SUM;
-    private static final int[] NO_ROUND = {-1, 40, 41, -9, Check.LOWEST, Check.HIGHEST};
 
     public static void main(String[] args) {
         fallByHalf();
@@ -56,20 +55,12 @@ public final class OutcomeEdgesTest {
         Check.due(call, got, want);
     }
 
-    private static int[] noPerson(int size) {
-        return new int[] {-1, size, size + 1, 7, -9, Check.LOWEST, Check.HIGHEST};
-    }
-
-    private static String two(int n) {
-        return (n < 10 ? "0" : "") + n;
-    }
-
     // -- promise 19
 
     private static void fallByHalf() {
         Check.says(19, "put no more than half of what they put in ROUND 0");
         for (int first = 1; first <= 20; first++) {
-            PotAndFine x = Check.of("", "P" + two(first) + "Z");
+            PotAndFine x = Check.of("", "P" + Check.two(first) + "Z");
             for (int v = 0; v <= first; v++) {
                 x.tell(0, 7, v);
                 due("fall(), " + v + " of " + first, x.fall(), 2 * v <= first ? 7 : NONE);
@@ -233,7 +224,7 @@ public final class OutcomeEdgesTest {
     private static void voteIsRefused() {
         Check.says(21, "UNKNOWN");
         PotAndFine x = Check.of("F1", "ZG09");
-        for (int round : NO_ROUND) {
+        for (int round : Check.NO_ROUND) {
             due("vote(" + round + ")", x.vote(round), UNKNOWN);
         }
         due("vote(0)", x.vote(0), 0);
@@ -291,7 +282,7 @@ public final class OutcomeEdgesTest {
     private static void leastIsRefused() {
         Check.says(22, "UNKNOWN: round; BAD: x (0 .. 20)");
         PotAndFine x = Check.of("F3", "P20P20");
-        for (int round : NO_ROUND) {
+        for (int round : Check.NO_ROUND) {
             due("least(" + round + ", 0)", x.least(round, 0), UNKNOWN);
             due("least(" + round + ", 21)", x.least(round, 21), UNKNOWN);
             due("least(" + round + ", -1)", x.least(round, -1), UNKNOWN);
@@ -473,7 +464,7 @@ public final class OutcomeEdgesTest {
         Check.says(26, "UNKNOWN: person; LATE: fewer than two would be IN in some ROUND");
         for (String people : new String[] {"ZZ", "ZZZ", "ZZZZZZ"}) {
             PotAndFine x = Check.of("", people);
-            for (int person : noPerson(people.length())) {
+            for (int person : Check.noPerson(people.length())) {
                 due("without(" + person + ") of " + people, x.without(person), UNKNOWN);
             }
             for (int person = 0; person < people.length(); person++) {
@@ -652,10 +643,10 @@ public final class OutcomeEdgesTest {
     private static void replyUpToAllCoins() {
         Check.says(29, "what it should have PUT: 0 .. E");
         for (int coins = 1; coins <= 20; coins++) {
-            PotAndFine x = Check.of("E" + two(coins) + "M60", "P20Z");
+            PotAndFine x = Check.of("E" + Check.two(coins) + "M60", "P20Z");
             due("reply(0, 0) with E " + coins, x.reply(0, 0), coins);
             due("reply(1, 39) with E " + coins, x.reply(1, 39), coins);
-            Check.rule(x, "E" + two(coins) + "M00");
+            Check.rule(x, "E" + Check.two(coins) + "M00");
             due("reply(0, 0) with E " + coins, x.reply(0, 0), 0);
         }
     }
@@ -725,11 +716,11 @@ public final class OutcomeEdgesTest {
         Check.says(29, "UNKNOWN; LATE: it is OUT");
         PotAndFine x = Check.of("M60", "ZZZ");
         x.send(1, 20);
-        for (int person : noPerson(3)) {
+        for (int person : Check.noPerson(3)) {
             due("reply(" + person + ", 0)", x.reply(person, 0), UNKNOWN);
             due("reply(" + person + ", 40)", x.reply(person, 40), UNKNOWN);
         }
-        for (int round : NO_ROUND) {
+        for (int round : Check.NO_ROUND) {
             due("reply(0, " + round + ")", x.reply(0, round), UNKNOWN);
             due("reply(1, " + round + ")", x.reply(1, round), UNKNOWN);
         }
@@ -744,7 +735,7 @@ public final class OutcomeEdgesTest {
     private static void gainsOfAllPuts() {
         Check.says(30, "What one would get in a ROUND by a PUT (0 .. E)");
         for (int coins : new int[] {1, 2, 19, 20}) {
-            PotAndFine x = Check.of("E" + two(coins), "ZP01");
+            PotAndFine x = Check.of("E" + Check.two(coins), "ZP01");
             for (int v = 0; v <= coins; v++) {
                 due("gain(0, 7, " + v + ") with E " + coins, x.gain(0, 7, v), SUM + 600 * (coins - v) + 480 * (v + 1));
             }
@@ -762,11 +753,11 @@ public final class OutcomeEdgesTest {
         Check.says(30, "UNKNOWN; BAD: put; LATE: it is OUT: of several what is told first");
         PotAndFine x = Check.of("E09", "ZZZ");
         x.send(1, 20);
-        for (int person : noPerson(3)) {
+        for (int person : Check.noPerson(3)) {
             due("gain(" + person + ", 0, 0)", x.gain(person, 0, 0), UNKNOWN);
             due("gain(" + person + ", 0, 10)", x.gain(person, 0, 10), UNKNOWN);
         }
-        for (int round : NO_ROUND) {
+        for (int round : Check.NO_ROUND) {
             due("gain(0, " + round + ", 0)", x.gain(0, round, 0), UNKNOWN);
             due("gain(1, " + round + ", 10)", x.gain(1, round, 10), UNKNOWN);
         }
@@ -859,7 +850,7 @@ public final class OutcomeEdgesTest {
     private static void restIsRefused() {
         Check.says(31, "UNKNOWN");
         PotAndFine x = new PotAndFine();
-        for (int round : NO_ROUND) {
+        for (int round : Check.NO_ROUND) {
             due("rest(" + round + ")", x.rest(round), UNKNOWN);
         }
         due("rest(0)", x.rest(0), 1);

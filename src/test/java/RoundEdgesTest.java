@@ -2,7 +2,6 @@
 public final class RoundEdgesTest {
     private static final int UNKNOWN = Check.UNKNOWN, BAD = Check.BAD, LATE = Check.LATE, NONE = Check.NONE;
     private static final long SUM = Check.SUM;
-    private static final int[] NO_ROUND = {-1, 40, 41, -9, Check.LOWEST, Check.HIGHEST};
 
     public static void main(String[] args) {
         tellsWhatIsTaken();
@@ -57,14 +56,6 @@ public final class RoundEdgesTest {
         Check.due(call, got, want);
     }
 
-    private static int[] noPerson(int size) {
-        return new int[] {-1, size, size + 1, 7, -9, Check.LOWEST, Check.HIGHEST};
-    }
-
-    private static String two(int n) {
-        return (n < 10 ? "0" : "") + n;
-    }
-
     // -- promise 9
 
     private static void tellsWhatIsTaken() {
@@ -94,12 +85,12 @@ public final class RoundEdgesTest {
             PotAndFine x = Check.of("", people);
             int size = people.length();
             x.tell(0, 0, 7);
-            for (int person : noPerson(size)) {
+            for (int person : Check.noPerson(size)) {
                 due("tell(" + person + ", 0, 5)", x.tell(person, 0, 5), UNKNOWN);
                 due("tell(" + person + ", 0, 21)", x.tell(person, 0, 21), UNKNOWN);
                 due("tell(" + person + ", 40, 5)", x.tell(person, 40, 5), UNKNOWN);
             }
-            for (int round : NO_ROUND) {
+            for (int round : Check.NO_ROUND) {
                 due("tell(0, " + round + ", 5)", x.tell(0, round, 5), UNKNOWN);
                 due("tell(0, " + round + ", 21)", x.tell(0, round, 21), UNKNOWN);
                 due("tell(0, " + round + ", NONE)", x.tell(0, round, NONE), UNKNOWN);
@@ -155,7 +146,7 @@ public final class RoundEdgesTest {
     private static void toldAboveWhatOneHas() {
         Check.says(0, "0 .. 20, but not more than E is put");
         for (int coins = 1; coins <= 20; coins++) {
-            PotAndFine x = Check.of("E" + two(coins), "ZZ");
+            PotAndFine x = Check.of("E" + Check.two(coins), "ZZ");
             for (int v = 0; v <= 20; v++) {
                 x.tell(0, 3, v);
                 due("put(0, 3) with E " + coins, x.put(0, 3), Math.min(v, coins));
@@ -213,7 +204,7 @@ public final class RoundEdgesTest {
         Check.says(10, "UNKNOWN: person; BAD: round; LATE: fewer than two would be IN");
         for (String people : new String[] {"ZZ", "ZZZ", "ZZZZZZ"}) {
             PotAndFine x = Check.of("", people);
-            for (int person : noPerson(people.length())) {
+            for (int person : Check.noPerson(people.length())) {
                 due("send(" + person + ", 0)", x.send(person, 0), UNKNOWN);
                 due("send(" + person + ", 41)", x.send(person, 41), UNKNOWN);
                 due("send(" + person + ", 40)", x.send(person, 40), UNKNOWN);
@@ -323,7 +314,7 @@ public final class RoundEdgesTest {
     private static void putsOfRoundNought() {
         Check.says(12, "M, G, S, V, L in ROUND 0 E by two (cut)");
         for (int coins = 1; coins <= 20; coins++) {
-            PotAndFine x = Check.of("E" + two(coins) + "F9", "M9G99S99V99L9P20");
+            PotAndFine x = Check.of("E" + Check.two(coins) + "F9", "M9G99S99V99L9P20");
             for (int person = 0; person < 5; person++) {
                 due("put(" + person + ", 0) with E " + coins, x.put(person, 0), coins / 2);
             }
@@ -336,7 +327,7 @@ public final class RoundEdgesTest {
     private static void putsOfAlways() {
         Check.says(12, "P its xx, never more than E; Z 0");
         for (int coins = 1; coins <= 20; coins++) {
-            PotAndFine x = Check.of("E" + two(coins), "P00P01P10P19P20Z");
+            PotAndFine x = Check.of("E" + Check.two(coins), "P00P01P10P19P20Z");
             int[] amounts = {0, 1, 10, 19, 20, 0};
             for (int person = 0; person < 6; person++) {
                 for (int round : new int[] {0, 1, 39}) {
@@ -351,16 +342,16 @@ public final class RoundEdgesTest {
         Check.says(12, "later the mean (cut) of what the others put in the ROUND before");
         for (int a = 0; a <= 20; a++) {
             for (int b = 0; b <= 20; b++) {
-                PotAndFine x = Check.of("", "P" + two(a) + "M0P" + two(b));
+                PotAndFine x = Check.of("", "P" + Check.two(a) + "M0P" + Check.two(b));
                 due("put(1, 1) between " + a + " and " + b, x.put(1, 1), (a + b) / 2);
                 due("put(1, 39) between " + a + " and " + b, x.put(1, 39), (a + b) / 2);
             }
         }
         for (String letter : new String[] {"M0", "G00", "S00", "V00"}) {
             for (int v = 0; v <= 20; v++) {
-                PotAndFine x = Check.of("", "ZZZZ" + letter + "P" + two(v));
+                PotAndFine x = Check.of("", "ZZZZ" + letter + "P" + Check.two(v));
                 due("put(4, 1) of " + letter + " by " + v + " of one among five", x.put(4, 1), v / 5);
-                PotAndFine pair = Check.of("", letter + "P" + two(v));
+                PotAndFine pair = Check.of("", letter + "P" + Check.two(v));
                 due("put(0, 1) of " + letter + " by " + v + " of the other one", pair.put(0, 1), v);
             }
         }
@@ -375,7 +366,7 @@ public final class RoundEdgesTest {
         for (String letter : new String[] {"M", "G", "S", "V"}) {
             for (int d = 0; d <= 9; d++) {
                 for (int v : new int[] {0, 1, d, d + 1, Math.max(0, d - 1), 20}) {
-                    PotAndFine x = Check.of("", letter + d + (letter.equals("M") ? "" : "0") + "P" + two(v));
+                    PotAndFine x = Check.of("", letter + d + (letter.equals("M") ? "" : "0") + "P" + Check.two(v));
                     due("put(0, 1) of " + letter + d + " by " + v, x.put(0, 1), Math.max(0, v - d));
                 }
             }
@@ -482,11 +473,11 @@ public final class RoundEdgesTest {
         x.send(0, 39);
         due("put(0, 38)", x.put(0, 38), 1);
         due("put(0, 39)", x.put(0, 39), NONE);
-        for (int person : noPerson(3)) {
+        for (int person : Check.noPerson(3)) {
             due("put(" + person + ", 0)", x.put(person, 0), UNKNOWN);
             due("put(" + person + ", 40)", x.put(person, 40), UNKNOWN);
         }
-        for (int round : NO_ROUND) {
+        for (int round : Check.NO_ROUND) {
             due("put(2, " + round + ")", x.put(2, round), UNKNOWN);
             due("put(0, " + round + ")", x.put(0, round), UNKNOWN);
         }
@@ -731,12 +722,12 @@ public final class RoundEdgesTest {
         Check.says(13, "UNKNOWN: people, round; BAD: both are one");
         PotAndFine x = Check.of("F1", "G09ZZ");
         due("paid(0, 1, 0): 10 by three", x.paid(0, 1, 0), 3);
-        for (int person : noPerson(3)) {
+        for (int person : Check.noPerson(3)) {
             due("paid(" + person + ", 0, 0)", x.paid(person, 0, 0), UNKNOWN);
             due("paid(0, " + person + ", 0)", x.paid(0, person, 0), UNKNOWN);
             due("paid(" + person + ", " + person + ", 0)", x.paid(person, person, 0), UNKNOWN);
         }
-        for (int round : NO_ROUND) {
+        for (int round : Check.NO_ROUND) {
             due("paid(0, 1, " + round + ")", x.paid(0, 1, round), UNKNOWN);
             due("paid(0, 0, " + round + ")", x.paid(0, 0, round), UNKNOWN);
         }
@@ -886,7 +877,7 @@ public final class RoundEdgesTest {
 
     private static void roundsAreRefused() {
         PotAndFine x = Check.of("F1", "G09ZZ");
-        for (int round : NO_ROUND) {
+        for (int round : Check.NO_ROUND) {
             Check.says(14, "UNKNOWN");
             due("pot(" + round + ")", x.pot(round), UNKNOWN);
             Check.says(15, "UNKNOWN");
@@ -899,7 +890,7 @@ public final class RoundEdgesTest {
             Check.says(18, "UNKNOWN");
             due("lost(0, " + round + ")", x.lost(0, round), UNKNOWN);
         }
-        for (int person : noPerson(3)) {
+        for (int person : Check.noPerson(3)) {
             Check.says(16, "UNKNOWN");
             due("holds(" + person + ", 0)", x.holds(person, 0), UNKNOWN);
             due("holds(" + person + ", 40)", x.holds(person, 40), UNKNOWN);

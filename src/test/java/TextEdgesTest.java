@@ -55,10 +55,6 @@ public final class TextEdgesTest {
         due((group ? "group()" : "rule()") + " of '" + text + "' is LATE", answer == LATE ? 1 : 0, want == NONE ? 0 : 1);
     }
 
-    private static String two(int n) {
-        return (n < 10 ? "0" : "") + n;
-    }
-
     // -- promise 1
 
     private static void aNewObject() {
@@ -293,7 +289,7 @@ public final class TextEdgesTest {
         Check.says(4, "Exx each has xx COINS (01 .. 20)");
         numberOfTwo(false, "E", 1, 20);
         for (int coins = 1; coins <= 20; coins++) {
-            PotAndFine x = Check.of("E" + two(coins), "P20Z");
+            PotAndFine x = Check.of("E" + Check.two(coins), "P20Z");
             due("ruled(0)", x.ruled(0), coins);
             due("put(0, 0)", x.put(0, 0), coins);
             due("holds(1, 0)", x.holds(1, 0), Check.SUM + 600 * coins + 480 * coins);
@@ -304,7 +300,7 @@ public final class TextEdgesTest {
         Check.says(4, "Mxx the pot is made xx tenths of it (00 .. 60)");
         numberOfTwo(false, "M", 0, 60);
         for (int tenths = 0; tenths <= 60; tenths++) {
-            PotAndFine x = Check.of("M" + two(tenths), "P20Z");
+            PotAndFine x = Check.of("M" + Check.two(tenths), "P20Z");
             due("ruled(1)", x.ruled(1), tenths);
             due("holds(0, 0)", x.holds(0, 0), Check.SUM + 600 * tenths);
         }
@@ -394,7 +390,7 @@ public final class TextEdgesTest {
         Check.says(4, "Pxx PUTS xx (00 .. 20)");
         numberOfTwo(true, "P", 0, 20);
         for (int coins = 0; coins <= 20; coins++) {
-            PotAndFine x = Check.of("", "P" + two(coins) + "Z");
+            PotAndFine x = Check.of("", "P" + Check.two(coins) + "Z");
             due("person(0, 1)", x.person(0, 1), coins);
             due("put(0, 39)", x.put(0, 39), coins);
         }
